@@ -1219,10 +1219,7 @@ public final class ShingledDisk {
 
         private boolean beginsExtent(int t) {
             int place = livePlaceOf(t);
-            if (place <= 0) {
-                return place == 0;
-            }
-            return t <= 0 || livePlaceOf(t - 1) != place - 1;
+            return place == 0 || place > 0 && livePlaceOf(t - 1) != place - 1;
         }
 
         /** How many EXTENTS begin at a TRACK or ahead of it. */

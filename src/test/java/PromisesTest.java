@@ -9,6 +9,7 @@ public final class PromisesTest {
         newObject();
         feed();
         disk();
+        diskAnew();
         tokens();
         faultsByNumber();
         faultsMany();
@@ -202,6 +203,35 @@ public final class PromisesTest {
         E.same("3 read", x.size(7), 6);
     }
 
+    private static void diskAnew() {
+        String head = "disk overlap 1 log 2 oldest;band 3";
+        String much = head + ";has 0 1;has 1 2;write 0 3;write 1 4;write 2 5;unsure 0 6;unsure 1 7;read 2 5;read 1 9";
+        ShingledDisk x = Expect.diskOf(much);
+        E.same("35 none fits", x.fits(), 0);
+        x.write(0, 1);
+        x.cut(0, 5);
+        // what one text tells is gone with the next but one, too
+        for (int i = 0; i < 3; i++) {
+            E.told("3 little", x, Expect.tell(x, head), 3);
+            E.same("12 no journal", x.journal(), 0);
+            E.refused("47 not down", x, x.recover(), 5);
+            E.same("6 has nothing", x.read(0) + x.read(1), 0);
+            for (int what = 5; what <= 11; what++) {
+                E.same("52 little, size " + what, x.size(what), 0);
+            }
+            E.same("35 the empty set fits", x.fits(), 1);
+            E.same("27 no write", x.runWrites(), 0);
+            E.told("3 much", x, Expect.tell(x, much), 3);
+            E.same("35 none fits", x.fits(), 0);
+            x.cut(0, 4);
+        }
+        E.refused("3 a fault", x, Expect.tell(x, "disk overlap 3 log 9 fullest"), 4);
+        E.same("52 the overlap stays", x.size(0), 1);
+        E.same("52 the log stays", x.size(1), 2);
+        E.same("52 oldest stays", x.size(2), 1);
+        E.same("12 the journal stays", x.journal(), 3);
+    }
+
     private static void fault(String text, int number, int place) {
         ShingledDisk x = new ShingledDisk();
         E.refused("4 [" + text + "]", x, Expect.tell(x, text), 4);
@@ -264,6 +294,15 @@ public final class PromisesTest {
         faultBehind(HEAD, "band 2;read 0 x", 1, 14);
         faultBehind(HEAD, "band 2;reads 0 0", 1, 7);
         faultBehind(HEAD, "band 2;rea 0 0", 1, 7);
+        faultBehind(HEAD, "hand 2", 1, 0);
+        fault("risk overlap 1 log 3 fullest", 1, 0);
+        fault("zz", 1, 0);
+        fault("/", 1, 0);
+        fault(":", 1, 0);
+        fault("`", 1, 0);
+        fault("{", 1, 0);
+        faultBehind(HEAD, "band /", 1, 5);
+        faultBehind(HEAD, "band :", 1, 5);
         // letters, digits that stand together in too great a number begin no TOKEN
         faultBehind(HEAD, "bandbandb 2", 1, 0);
         faultBehind(HEAD, "band 00002", 1, 5);
@@ -501,6 +540,11 @@ public final class PromisesTest {
         E.refused("14 entry(4, 0)", x, x.entry(4, 0), 1);
         E.refused("14 entry(-1, 0)", x, x.entry(-1, 0), 1);
         E.refused("14 entry(most, 0)", x, x.entry(BIG, 0), 1);
+        ShingledDisk y = Expect.diskOf(HEAD + "band 3");
+        y.write(1, 1);
+        y.write(2, 1);
+        E.told("15 the first, too", y, y.live(), 2);
+        E.told("9 the first live, too", y, y.band(0, 3), 2);
         // the others stay in their order
         x.clean(0);
         E.told("13 the others", x, x.entries(), 2);
@@ -562,6 +606,14 @@ public final class PromisesTest {
         y.write(1, 3);
         E.told("16 written again behind", y, y.extents(), 1);
         extentIs(y, 0, 0, 2, 1);
+        ShingledDisk z = Expect.diskOf(HEAD + "band 4");
+        z.write(3, 1);
+        E.told("16 the last track", z, z.extents(), 1);
+        E.told("18 the last track", z, z.extentFrom(0), 0);
+        E.told("18 itself", z, z.extentFrom(3), 0);
+        z.write(0, 1);
+        E.told("16 the first and the last", z, z.extents(), 2);
+        extentIs(z, 1, 3, 1, 0);
     }
 
     // ---- promise 19
@@ -644,6 +696,18 @@ public final class PromisesTest {
             E.told("25 of the log " + k, x, x.readThen(0, k, 1), 3);
             E.told("25 of another band " + k, x, x.readThen(0, k, 4), 4);
         }
+        // each by itself, behind another trial
+        for (int k = 0; k <= 10; k++) {
+            boolean full = k >= 5 && k <= 9;
+            x.damages(0, 10 - k);
+            E.told("24 fullThen by itself " + k, x, x.fullThen(0, k), full ? 1 : 0);
+            x.damages(0, 10);
+            E.told("26 recoversBy by itself " + k, x, x.recoversBy(0, k), full ? 4 : 0);
+            x.runRead(0);
+            E.told("25 readThen by itself " + k, x, x.readThen(0, k, 1), 3);
+            x.fullThen(0, 5);
+            E.told("23 damages by itself " + k, x, x.damages(0, k), damaged[k]);
+        }
         int[] low = {-1, 11, LOW, BIG};
         for (int k : low) {
             E.refused("23 k", x, x.damages(0, k), 2);
@@ -706,6 +770,23 @@ public final class PromisesTest {
         E.told("30 upper, in lowest terms", y, y.factor(false), 10);
         E.told("30 lower, in lowest terms", y, y.factor(true), 3);
         E.told("29 the last one", y, y.runRead(4), 10);
+        // each by itself, behind another trial; unsure writes are as told
+        ShingledDisk w = Expect.diskOf("disk overlap 1 log 2 fullest;band 2;"
+            + "write 0 5;write 1 6;write 0 7;unsure 1 8;unsure 2 9");
+        w.drawnWrites(0, 9);
+        E.told("27 by itself", w, w.runWrites(), 7);
+        w.drawnWrites(0, 9);
+        E.told("28 by itself", w, w.runCleans(), 1);
+        w.drawnWrites(0, 9);
+        E.told("29 by itself", w, w.runRead(0), 7);
+        E.told("29 as told", w, w.runRead(1), 6);
+        w.drawnWrites(0, 9);
+        E.told("30 upper by itself", w, w.factor(false), 7);
+        w.drawnWrites(0, 9);
+        E.told("30 lower by itself", w, w.factor(true), 3);
+        ShingledDisk v = Expect.diskOf(HEAD + "band 2;write 0 5");
+        E.told("30 one write", v, v.factor(false), 1);
+        E.told("30 by one", v, v.factor(true), 1);
         ShingledDisk z = Expect.diskOf(HEAD + "band 2");
         E.told("27 none", z, z.runWrites(), 0);
         E.told("28 none", z, z.runCleans(), 0);
@@ -741,6 +822,19 @@ public final class PromisesTest {
         E.told("31 of 48 tracks by 7", z, z.bySize(7), 15);
         E.told("32 of 48 tracks", z, z.bestSize(), 2);
         E.told("27 as told", z, z.runWrites(), 19);
+        // by 7 the last track has a band of its own
+        ShingledDisk w = Expect.diskOf("disk overlap 1 log 3 fullest;band 5;band 3;"
+            + "write 7 0;write 7 1;write 5 2;write 1 3");
+        E.told("31 by 7", w, w.bySize(7), 6);
+        E.told("32 7", w, w.bestSize(), 7);
+        // fullest or oldest as told
+        String run = ";band 8;write 0 0;write 2 0;write 3 0;write 1 0;write 0 0";
+        E.same("31 fullest", Expect.diskOf("disk overlap 1 log 3 fullest" + run).bySize(3), 11);
+        E.same("31 oldest", Expect.diskOf("disk overlap 1 log 3 oldest" + run).bySize(2), 13);
+        E.same("31 oldest by 3", Expect.diskOf("disk overlap 1 log 3 oldest" + run).bySize(3), 11);
+        String other = ";band 8;write 0 0;write 3 0;write 4 0;write 1 0;write 0 0";
+        E.same("31 fullest, other", Expect.diskOf("disk overlap 1 log 3 fullest" + other).bySize(3), 11);
+        E.same("31 oldest, other", Expect.diskOf("disk overlap 1 log 3 oldest" + other).bySize(3), 17);
     }
 
     // ---- promises 33, 34
@@ -767,6 +861,17 @@ public final class PromisesTest {
         E.told("34 16", x, x.logFor(16), 2);
         E.refused("34 -1", x, x.logFor(-1), 2);
         E.refused("34 17", x, x.logFor(17), 2);
+        // by 2: oldest: band 1, band 0; fullest: band 0, band 0, band 1
+        String run = ";band 2;band 5;write 6 0;write 0 1;write 0 2;write 6 3;write 6 4";
+        ShingledDisk y = Expect.diskOf("disk overlap 1 log 9 oldest" + run);
+        E.told("33 oldest", y, y.byLog(2), 2);
+        E.told("34 oldest", y, y.logFor(2), 2);
+        ShingledDisk z = Expect.diskOf("disk overlap 1 log 9 fullest" + run);
+        z.bySize(8);
+        E.told("33 fullest", z, z.byLog(2), 3);
+        E.told("33 fullest by 3", z, z.byLog(3), 1);
+        E.told("34 fullest", z, z.logFor(2), 3);
+        E.told("28 as told", z, z.runCleans(), 0);
     }
 
     // ---- promises 35 to 38
@@ -801,6 +906,11 @@ public final class PromisesTest {
         E.told("36 the last", w, w.fitAt(15), 15);
         E.told("37 all", w, w.could(), 15);
         E.told("38 all", w, w.surely(), 0);
+        ShingledDisk v = Expect.diskOf(head + "write 0 1;write 1 1;unsure 0 2;unsure 1 2;read 0 2;read 1 1");
+        E.told("35 the only one", v, v.fits(), 1);
+        E.told("36 the only one", v, v.fitAt(0), 1);
+        E.told("37 the only one", v, v.could(), 1);
+        E.told("38 the only one", v, v.surely(), 1);
     }
 
     // ---- promises 39, 40
@@ -811,6 +921,12 @@ public final class PromisesTest {
         E.told("35 fits", x, x.fits(), 4);
         E.told("39 the first of the best", x, x.ask(), 1);
         E.told("40 half", x, x.askLeaves(), 2);
+        // the other values are the same as those told, or are overwritten
+        ShingledDisk u = Expect.diskOf(head + "write 0 1;write 0 2;write 1 3;"
+            + "unsure 2 3;unsure 1 2;unsure 0 9;read 0 2;read 1 3");
+        E.told("35 all eight", u, u.fits(), 8);
+        E.told("39 the first", u, u.ask(), 0);
+        E.told("40 four", u, u.askLeaves(), 4);
         ShingledDisk y = Expect.diskOf(head + "write 0 1;write 1 2;unsure 1 6;unsure 0 5;read 0 1;read 1 6");
         E.told("39 one fit", y, y.ask(), 0);
         E.told("40 one fit", y, y.askLeaves(), 1);
@@ -1049,7 +1165,9 @@ public final class PromisesTest {
         E.same("48 acts", x.size(9), 0);
         x.write(0, 5);
         x.clean(0);
+        E.refused("48 ahead of it", x, x.read(99), 1);
         E.yes("48 undo cleaning", x.undo());
+        E.same("48 not refused", x.trouble(), 0);
         E.same("48 the entry again", x.read(0), 5);
         // the full LOG had band 0 cleaned ahead of that write
         E.same("48 not in the band", x.track(0), 0);
@@ -1088,7 +1206,9 @@ public final class PromisesTest {
         E.same("50 writes", x.size(8), 7);
         E.same("50 recovers", x.recover(), 0);
         E.same("50 read of image 2", x.read(0), 3);
+        E.refused("50 ahead of it", x, x.read(99), 1);
         E.yes("50 back 1", x.back(1));
+        E.same("50 not refused", x.trouble(), 0);
         E.same("50 read of image 1", x.read(0), 2);
         x.write(0, 4);
         E.no("50 back -1", x.back(-1));
