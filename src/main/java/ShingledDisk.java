@@ -63,7 +63,7 @@ public final class ShingledDisk {
     private final Shape trialShape = new Shape();
     private final Draws draws = new Draws();
     private final History history = new History();
-    private final State[] images = {new State(), new State(), new State()};
+    private final Shelf images = new Shelf(MOST_IMAGES);
     private int imageCount;
     private int latestTrouble;
     private int latestFault;
@@ -680,20 +680,20 @@ public final class ShingledDisk {
         if (!hasDisk()) {
             return refuse(NONE_SUCH);
         }
-        if (imageCount < 0 || imageCount >= images.length) {
+        if (imageCount >= MOST_IMAGES) {
             return refuse(NO_ROOM);
         }
-        images[imageCount].copyFrom(now);
+        images.layIn(imageCount, now);
         imageCount++;
         return accept(imageCount - 1);
     }
 
     public boolean back(int image) {
-        if (image < 0 || image >= imageCount || image >= images.length) {
+        if (image < 0 || image >= imageCount) {
             refuse(NONE_SUCH);
             return false;
         }
-        now.copyFrom(images[image]);
+        images.takeOut(image, now);
         history.forget();
         latestTrouble = 0;
         return true;
@@ -1260,7 +1260,7 @@ public final class ShingledDisk {
                 return NOTHING;
             }
             if (shape.oldest) {
-                return shape.bandHolding(entryTrack[0]);
+                return shape.bandHolding(at(entryTrack, 0));
             }
             int fullest = 0;
             int most = 0;
@@ -1360,38 +1360,56 @@ public final class ShingledDisk {
         }
     }
 
-    /** The ACTS that can be undone, as the states ahead of them, in a ring. */
-    private static final class History {
-        private final State[] ring = new State[MOST_KEPT];
-        private int next;
-        int count;
+    /** Room for copies of states. */
+    private static final class Shelf {
+        private final State[] copies;
 
-        History() {
-            for (int i = 0; i < ring.length; i++) {
-                ring[i] = new State();
+        Shelf(int room) {
+            copies = new State[Math.max(room, 0)];
+            for (int i = 0; i < copies.length; i++) {
+                copies[i] = new State();
             }
         }
 
+        private State copyAt(int i) {
+            return i >= 0 && i < copies.length ? copies[i] : null;
+        }
+
+        void layIn(int i, State from) {
+            State copy = copyAt(i);
+            if (copy != null) {
+                copy.copyFrom(from);
+            }
+        }
+
+        void takeOut(int i, State into) {
+            State copy = copyAt(i);
+            if (copy != null) {
+                into.copyFrom(copy);
+            }
+        }
+    }
+
+    /** The ACTS that can be undone, as the states ahead of them, in a ring. */
+    private static final class History {
+        private final Shelf ring = new Shelf(MOST_KEPT);
+        private int next;
+        int count;
+
         void forget() {
-            next = 0;
             count = 0;
         }
 
         void keep(State state) {
-            if (next < 0 || next >= ring.length) {
-                next = 0;
-            }
-            ring[next].copyFrom(state);
+            ring.layIn(next, state);
             next = (next + 1) % MOST_KEPT;
             count = Math.min(count + 1, MOST_KEPT);
         }
 
         void takeBack(State into) {
             next = (next + MOST_KEPT - 1) % MOST_KEPT;
-            if (count > 0 && next >= 0 && next < ring.length) {
-                into.copyFrom(ring[next]);
-                count--;
-            }
+            ring.takeOut(next, into);
+            count--;
         }
     }
 

@@ -105,7 +105,7 @@ public final class LanguageTest {
         String[] ruledOut = {"->", "::", "\\bfinally\\b", "\\bsynchronized\\b", "\\bassert\\b", "\\btry\\b",
             "\\bcatch\\b", "\\bpackage\\b", "Exact\\(", "\\binstanceof\\b", "\\bdouble\\b", "\\bfloat\\b",
             "\\bvar\\b", "\\bThread\\b", "\\bRandom\\b", "System\\.(?!arraycopy)", "\" *\\+", "\\+ *\"",
-            "\\bnull\\b", "@"};
+            "@"};
         for (String pattern : ruledOut) {
             E.no("in the source: " + pattern, Pattern.compile(pattern).matcher(code).find());
         }

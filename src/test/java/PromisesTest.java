@@ -212,6 +212,8 @@ public final class PromisesTest {
         x.cut(0, 5);
         // what one text tells is gone with the next but one, too
         for (int i = 0; i < 3; i++) {
+            E.told("3 much again", x, Expect.tell(x, much), 3);
+            E.same("52 writes of the run", x.size(5), 3);
             E.told("3 little", x, Expect.tell(x, head), 3);
             E.same("12 no journal", x.journal(), 0);
             E.refused("47 not down", x, x.recover(), 5);
@@ -295,6 +297,14 @@ public final class PromisesTest {
         faultBehind(HEAD, "band 2;reads 0 0", 1, 7);
         faultBehind(HEAD, "band 2;rea 0 0", 1, 7);
         faultBehind(HEAD, "hand 2", 1, 0);
+        // the first FAULT stands, whatever comes behind it
+        faultBehind(HEAD, "band;disk", 1, 4);
+        faultBehind(HEAD, "band 9;disk", 4, 5);
+        faultBehind(HEAD, "band 2;has;disk", 1, 10);
+        faultBehind(HEAD, "band 2;has 0;disk", 1, 12);
+        faultBehind(HEAD, "band 2;has 7;disk", 2, 11);
+        fault("disk;disk", 1, 4);
+        fault("disk overlap 1 log 3;disk", 1, 20);
         fault("risk overlap 1 log 3 fullest", 1, 0);
         fault("zz", 1, 0);
         fault("/", 1, 0);
@@ -911,6 +921,10 @@ public final class PromisesTest {
         E.told("36 the only one", v, v.fitAt(0), 1);
         E.told("37 the only one", v, v.could(), 1);
         E.told("38 the only one", v, v.surely(), 1);
+        ShingledDisk u = Expect.diskOf(head + "write 0 1;write 1 1;write 2 1;write 3 1;"
+            + "unsure 0 2;unsure 1 2;unsure 2 2;unsure 3 2;read 0 1;read 1 2;read 2 2");
+        E.told("37 the later ones", u, u.could(), 14);
+        E.told("38 the later ones", u, u.surely(), 6);
     }
 
     // ---- promises 39, 40
@@ -930,6 +944,9 @@ public final class PromisesTest {
         ShingledDisk y = Expect.diskOf(head + "write 0 1;write 1 2;unsure 1 6;unsure 0 5;read 0 1;read 1 6");
         E.told("39 one fit", y, y.ask(), 0);
         E.told("40 one fit", y, y.askLeaves(), 1);
+        ShingledDisk t = Expect.diskOf(head + "write 0 1;write 1 2;unsure 0 5;unsure 1 6;read 0 5");
+        E.told("39 the one that is open", t, t.ask(), 1);
+        E.told("40 the one that is open", t, t.askLeaves(), 1);
         ShingledDisk z = Expect.diskOf(head + "write 0 1;unsure 0 5;read 1 6");
         E.told("39 no fits", z, z.ask(), -2);
         E.told("40 no fits", z, z.askLeaves(), -2);
