@@ -5,6 +5,10 @@ final class Expect {
     private int wrong;
     private int asked;
 
+    int asked() {
+        return asked;
+    }
+
     void same(String what, long got, long due) {
         asked++;
         if (got != due) {
