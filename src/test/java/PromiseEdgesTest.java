@@ -167,6 +167,19 @@ public final class PromiseEdgesTest {
                 on.no("back", x.back(0));
                 on.same("no IMAGE", x.trouble(), 1);
                 on.told("the first IMAGE", x, x.image(), 0);
+                // nothing of a text is left behind the next one, the next but one, or one with a FAULT
+                String much = TWO + ";write 0 1;write 1 2;unsure 1 3;read 0 1;read 1 3";
+                for (int i = 0; i < 4; i++) {
+                    on.told("much", x, Expect.tell(x, much), 5);
+                    on.told("much, fits", x, x.fits(), 1);
+                    on.same("a FAULT", Expect.tell(x, much + ";read 2 0;read 3 0;has 9"), -1);
+                    on.told("little", x, Expect.tell(x, "disk overlap 2 log 7 oldest;band 2"), 2);
+                    int[] due = {2, 7, 1, 1, 2, 0, 0, 0, 0, 0, 0, 0};
+                    on.row("little, size", due, x::size);
+                    on.row("little, read", new int[] {0, 0}, x::read);
+                    on.told("little, fits", x, x.fits(), 1);
+                    on.told("little, runWrites", x, x.runWrites(), 0);
+                }
             });
         on.edge("how many TRACKS", () -> {
             on.good(HEAD + "band 2", 2);
@@ -316,6 +329,12 @@ public final class PromiseEdgesTest {
             x.cut(1, 4);
             on.row("a full LOG", new int[] {2, 3, 3, 2, 1}, what -> x.band(1, what));
             on.row("the other band", new int[] {3, 0, 0, 0, 0}, what -> x.band(0, what));
+            ShingledDisk y = on.disk(TWO);
+            y.write(3, 1);
+            y.write(0, 2);
+            y.write(0, 3);
+            on.row("the first ENTRY's", new int[] {2, 3, 1, 1, 0}, what -> y.band(1, what));
+            on.row("the last ENTRY's", new int[] {3, 0, 2, 1, 0}, what -> y.band(0, what));
         });
         on.edge("NONE: 1.", () -> {
             on.noDisk("band", x -> x.band(0, 0));
@@ -733,6 +752,15 @@ public final class PromiseEdgesTest {
             on.same("the least", on.disk(head + "write 0 1;write 1 1;write 0 1;write 1 1").bestSize(), 2);
             // by 7 alone the last TRACK has a band of its own
             on.same("7", on.disk(head + "write 7 0;write 7 1;write 5 2;write 1 3").bestSize(), 7);
+            // 31 by 2 and by 5; 21 by 1 and 29 by 9, which are no band sizes
+            StringBuilder run = new StringBuilder("disk overlap 1 log 6 oldest;band 8;band 8;band 2");
+            int[] tracks = {8, 3, 4, 16, 0, 1, 13, 14, 7, 3, 15};
+            for (int t : tracks) {
+                run.append(";write ").append(t).append(" 0");
+            }
+            ShingledDisk x = on.disk(run.toString());
+            on.row("2 and", new int[] {31, 35, 35, 31, 35, 39, 43}, i -> x.bySize(2 + i));
+            on.told("not beyond 2 .. 8", x, x.bestSize(), 5);
         });
         noDisk(32, "bestSize", x -> x.bestSize());
     }
@@ -823,6 +851,7 @@ public final class PromiseEdgesTest {
             on.same("all", on.disk(UNSURE).could(), 15);
             on.same("not the first", on.disk(UNSURE + ";read 0 1").could(), 14);
             on.same("not the last", on.disk(UNSURE + ";read 3 1").could(), 7);
+            on.same("in the only one", on.disk(UNSURE + ";read 0 2;read 1 1;read 2 2;read 3 1").could(), 5);
         });
         noDisk(37, "could", x -> x.could());
         promise(38);
@@ -877,6 +906,13 @@ public final class PromiseEdgesTest {
             on.same("the sixth", on.disk("disk overlap 1 log 2 fullest;band 8;read 7 0;read 6 0;read 5 0;read 4 0;"
                 + "read 3 0;read 2 1").judge(), 5);
             on.same("as told, whatever may have been", on.disk(UNSURE + ";read 2 1;read 1 2").judge(), 1);
+            for (int t = 0; t < 4; t++) {
+                on.same("as told", on.disk(UNSURE + ";read " + t + " 1").judge(), -2);
+                on.same("otherwise", on.disk(UNSURE + ";read " + t + " 2").judge(), 0);
+            }
+            ShingledDisk z = on.disk(SURE + ";read 0 1");
+            z.drawnWrites(0, 9);
+            on.told("behind a trial of something else", z, z.judge(), -2);
         });
         noDisk(41, "judge", x -> x.judge());
     }

@@ -303,6 +303,16 @@ public final class TermsEdgesTest {
         on.edge("or TOKEN with which no DISK goes on", () -> {
             on.fault("", "2", 1, 0);
             on.fault("", "overlap", 1, 0);
+            on.fault("", "risk", 1, 0);
+            on.fault("", "disc", 1, 0);
+            on.fault(HEAD, "hand 2", 1, 0);
+            on.fault(HEAD, "bans 2", 1, 0);
+            on.fault(BAND, "was 0 0", 1, 0);
+            on.fault(BAND, "hat 0 0", 1, 0);
+            on.fault(BAND, "writs 0 0", 1, 0);
+            on.fault(BAND, "lead 0 0", 1, 0);
+            on.fault(BAND, "reads 0 0", 1, 0);
+            on.fault(BAND + "write 0 0;", "unsur 0 0", 1, 0);
             on.fault("disk ", "log", 1, 0);
             on.fault("disk overlap ", "log", 1, 0);
             on.fault("disk overlap 1 ", "2", 1, 0);
@@ -781,6 +791,21 @@ public final class TermsEdgesTest {
                 x.image();
                 x.recover();
             }
+            // each call by itself, behind a trial of something else
+            ShingledDisk y = on.disk("disk overlap 1 log 2 fullest;band 2;write 0 1;write 0 2;write 1 3;"
+                + "unsure 1 7;unsure 2 8");
+            y.drawnWrites(0, 9);
+            on.told("unsure writes as told", y, y.runRead(0), 2);
+            y.drawnWrites(0, 9);
+            on.told("unsure writes as told", y, y.runRead(1), 3);
+            y.drawnWrites(0, 9);
+            on.told("writes", y, y.runWrites(), 7);
+            y.drawnWrites(0, 9);
+            on.told("cleans", y, y.runCleans(), 1);
+            y.drawnWrites(0, 9);
+            on.told("upper", y, y.factor(false), 7);
+            y.drawnWrites(0, 9);
+            on.told("lower", y, y.factor(true), 3);
         });
         on.edge("By a size: the same TRACKS in bands of that size (the last one maybe less)", () -> {
             ShingledDisk x = on.disk("disk overlap 1 log 2 oldest;band 3;band 2;write 4 5;write 4 6;write 0 7");
@@ -791,6 +816,10 @@ public final class TermsEdgesTest {
                 + ";write 47 5;write 47 6;write 0 7");
             // 48 TRACKS: the last band has 2, 3, 4, 3, 6, 6, 8
             on.row("of 48 by 2 and", new int[] {7, 9, 11, 9, 15, 15, 19}, i -> y.bySize(2 + i));
+            // by 2 the last band is cleaned ahead of the third write, the first one ahead of the fourth
+            ShingledDisk w = on.disk("disk overlap 3 log 2 oldest;" + lines("band 8", 6)
+                + ";write 47 5;write 0 6;write 1 7;write 0 8");
+            on.same("24 bands", w.bySize(2), 12);
             ShingledDisk z = on.disk("disk overlap 1 log 2 oldest;band 2;write 1 5;write 1 6;write 0 7");
             on.row("of two TRACKS by 2 and", new int[] {7, 7, 7, 7, 7, 7, 7}, i -> z.bySize(2 + i));
         });
@@ -809,6 +838,13 @@ public final class TermsEdgesTest {
             }
             on.same("as told", x.runCleans(), 1);
             on.same("the LOG as told", x.size(1), 9);
+            // by 2: fullest cleans bands 0, 0, 1; oldest 1, 0
+            String run = ";band 2;band 5;write 6 0;write 0 1;write 0 2;write 6 3;write 6 4";
+            on.same("fullest as told", on.disk("disk overlap 1 log 9 fullest" + run).byLog(2), 3);
+            on.same("oldest as told", on.disk("disk overlap 1 log 9 oldest" + run).byLog(2), 2);
+            ShingledDisk y = on.disk("disk overlap 1 log 9 fullest" + run);
+            y.bySize(8);
+            on.same("bands as told", y.byLog(2), 3);
         });
     }
 
